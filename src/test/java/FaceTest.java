@@ -19,7 +19,8 @@ public final class FaceTest {
             "int letter(int)", "int view(int)", "int role(int)", "int cell(int,int)", "int count(int)",
             "int finished(int)", "int result(int)"));
     private static final String[] FORBIDDEN = {
-        "\\bthrow\\b", "\\btry\\b", "\\bcatch\\b", "\\bsynchronized\\b", "\\bassert\\b", "\\bimport\\b",
+        "\\bthrow\\b", "\\btry\\b", "\\bcatch\\b", "\\bsynchronized\\b", "\\bassert\\b",
+        "\\bimport\\s+(?!java\\.util\\.(ArrayList|List|Arrays|Iterator);)",
         "\\bpackage\\b", "->", "::", "\\bstatic\\s*\\{", "\\bprotected\\b"};
 
     private static int wrong = 0;

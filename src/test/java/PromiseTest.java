@@ -1,130 +1,40 @@
 /** For each promise and each kind of letter: ordinary inputs, edges and wrong inputs. */
-public final class PromiseTest {
-    private static final int MIN = Integer.MIN_VALUE;
-    private static final int MAX = Integer.MAX_VALUE;
-    private static final int[] NO_CLIENT = {MIN, -1, 3, 4, MAX};
-    private static final int[] NO_CELL = {MIN, -1, 4, 5, MAX};
-
-    private static int wrong = 0;
-    private static int looked = 0;
-    private static String topic = "";
-
-    private static void due(String what, long got, long want) {
-        looked++;
-        if (got != want) {
-            wrong++;
-            System.out.println(topic + ": " + what + " answered " + got + ", due is " + want);
-        }
-    }
-
-    private static void due(String what, boolean got, boolean want) {
-        due(what, got ? 1 : 0, want ? 1 : 0);
-    }
-
+public final class PromiseTest extends TestBase {
     public static void main(String[] args) {
-        topic = "promise 1, a new object"; newObject(); newObjectIsBlank();
-        topic = "promise 2, advance"; advance();
-        topic = "promise 3, skew"; skew(); skewAndLease(); skewOfCrashed();
-        topic = "promise 4, ping"; ping(); pingBearsWhatWasWhenSent(); pingOfUnreadyPrimary();
-        topic = "promise 5, check"; checkWithoutConfirmedView(); checkAddsBackup(); checkNothingFits();
+        about("promise 1, a new object"); newObject(); newObjectIsBlank();
+        about("promise 2, advance"); advance();
+        about("promise 3, skew"); skew(); skewAndLease(); skewOfCrashed();
+        about("promise 4, ping"); ping(); pingBearsWhatWasWhenSent(); pingOfUnreadyPrimary();
+        about("promise 5, check"); checkWithoutConfirmedView(); checkAddsBackup(); checkNothingFits();
         checkPromotesBackup(); checkReplacesBackup(); checkDropsBackup(); checkFreshEdge();
         checkBothStale(); checkLeastNewcomer(); checkPromotesWithoutNewcomer(); checkCrashedIsFresh();
-        topic = "promise 6, push"; pushRefused(); pushFill(); pushPass(); pushFillCopiesNow();
-        topic = "promise 7, begin"; begin(); beginOrderOfRefusals(); beginIgnoresValueOfRead();
-        topic = "promise 8, send"; send(); sendBearsWhatWasWhenSent();
-        topic = "promise 9, deliver"; deliverRefused(); deliverPlaces(); deliverIdleOnCrashed();
-        topic = "promise 10, lose"; lose();
-        topic = "promise 11, crash"; crash();
-        topic = "promise 12, letters"; letters(); lettersAreFull();
-        topic = "promise 13, letter"; letter();
-        topic = "promise 14, view"; view();
-        topic = "promise 15, role"; role();
-        topic = "promise 16, cell"; cell();
-        topic = "promise 17, count"; count();
-        topic = "promise 18, finished"; finished();
-        topic = "promise 19, result"; result();
-        topic = "letter 1, PING"; pingConfirms(); pingOfCrashed();
-        topic = "letter 2, VIEW"; viewOld(); viewSame(); viewGivesBackupNoLease(); leaseNeverShrinks(); leaseEdge();
-        topic = "letter 3, FILL"; fillEnters(); fillOld(); fillTwice(); fillAnew(); fillBearsLatestWrites();
+        about("promise 6, push"); pushRefused(); pushFill(); pushPass(); pushFillCopiesNow();
+        about("promise 7, begin"); begin(); beginOrderOfRefusals(); beginIgnoresValueOfRead();
+        about("promise 8, send"); send(); sendBearsWhatWasWhenSent();
+        about("promise 9, deliver"); deliverRefused(); deliverPlaces(); deliverIdleOnCrashed();
+        about("promise 10, lose"); lose();
+        about("promise 11, crash"); crash();
+        about("promise 12, letters"); letters(); lettersAreFull();
+        about("promise 13, letter"); letter();
+        about("promise 14, view"); view();
+        about("promise 15, role"); role();
+        about("promise 16, cell"); cell();
+        about("promise 17, count"); count();
+        about("promise 18, finished"); finished();
+        about("promise 19, result"); result();
+        about("letter 1, PING"); pingConfirms(); pingOfCrashed();
+        about("letter 2, VIEW"); viewOld(); viewSame(); viewGivesBackupNoLease(); leaseNeverShrinks(); leaseEdge();
+        about("letter 3, FILL"); fillEnters(); fillOld(); fillTwice(); fillAnew(); fillBearsLatestWrites();
         fillCopyIsOld();
-        topic = "letter 4, FILLED"; filledIdle();
-        topic = "letter 5, PASS"; passIdle(); passOfEarlierView(); passTwice(); passOfEarlierCount();
-        topic = "letter 6, PASSED"; passedIdle(); passedOfEarlierView(); passedOfEarlierWrite();
-        topic = "letter 7, ASK"; askNonPrimary(); askReadNotReady(); askWriteNotReady(); askAgain();
+        about("letter 4, FILLED"); filledIdle();
+        about("letter 5, PASS"); passIdle(); passOfEarlierView(); passTwice(); passOfEarlierCount();
+        about("letter 6, PASSED"); passedIdle(); passedOfEarlierView(); passedOfEarlierWrite();
+        about("letter 7, ASK"); askNonPrimary(); askReadNotReady(); askWriteNotReady(); askAgain();
         askOldWrite(); askWhilePending(); askPendingKeepsWrite(); askReadWhilePending(); askWithoutLease();
-        topic = "letter 8, ANSWER"; answerIdle();
-        topic = "entering a view"; enterDropsPending(); enterKeepsLease(); backupBecomesPrimary();
+        about("letter 8, ANSWER"); answerIdle();
+        about("entering a view"); enterDropsPending(); enterKeepsLease(); backupBecomesPrimary();
         stateKnowsLatestWrites();
-        System.out.println(looked + " answers looked at, " + wrong + " wrong");
-        if (wrong != 0) {
-            System.exit(1);
-        }
-    }
-
-    // ---- ways to bring a store into a state
-
-    /** Delivers the letter at place 0 until none waits. */
-    private static void settle(LeasedViewStore x) {
-        for (int i = 0; i < 200 && x.letters() > 0; i++) {
-            x.deliver(0);
-        }
-    }
-
-    private static void pingThrough(LeasedViewStore x, int s) {
-        x.ping(s);
-        settle(x);
-    }
-
-    /** Server 0 alone is primary of view 1, which is confirmed; no letter waits. */
-    private static LeasedViewStore alone(int n) {
-        LeasedViewStore x = new LeasedViewStore(n);
-        pingThrough(x, 0);
-        pingThrough(x, 0);
-        return x;
-    }
-
-    /** The service has view 2 with servers 0 and 1; neither server knows yet. */
-    private static LeasedViewStore paired(int n) {
-        LeasedViewStore x = alone(n);
-        pingThrough(x, 1);
-        x.check();
-        return x;
-    }
-
-    /** View 2 with servers 0 and 1; the primary has entered, and its FILL is the only letter. */
-    private static LeasedViewStore filling(int n) {
-        LeasedViewStore x = paired(n);
-        x.ping(0);
-        x.deliver(0);
-        x.deliver(0);
-        return x;
-    }
-
-    /** View 2 with servers 0 and 1, ready, filled and confirmed; no letter waits. */
-    private static LeasedViewStore running(int n) {
-        LeasedViewStore x = paired(n);
-        pingThrough(x, 0);
-        pingThrough(x, 0);
-        return x;
-    }
-
-    /** As running(n), then a write of v to cell k by client c is pending, its PASS the only letter. */
-    private static LeasedViewStore pending(int n, int c, int k, int v) {
-        LeasedViewStore x = running(n);
-        x.begin(c, true, k, v);
-        x.send(c, 0);
-        x.deliver(0);
-        return x;
-    }
-
-    private static void write(LeasedViewStore x, int c, int s, int k, int v) {
-        x.begin(c, true, k, v);
-        x.send(c, s);
-        settle(x);
-    }
-
-    private static int shown(int number, int primary, int backup) {
-        return 64 * number + 8 * primary + backup;
+        end();
     }
 
     // ---- promise 1
@@ -809,13 +719,6 @@ public final class PromiseTest {
             x.crash(s);
             due("crashed", x.role(s), role + 8);
         }
-    }
-
-    /** Brings the ping and its answer through, and leaves the letters before them where they are. */
-    private static void pingThroughOnly(LeasedViewStore x, int s) {
-        x.ping(s);
-        x.deliver(x.letters() - 1);
-        x.deliver(x.letters() - 1);
     }
 
     // ---- promise 16

@@ -502,20 +502,14 @@ public final class LetterBoundaryTest extends TestBase {
 
         // Server 1 is the primary of view 3.
         LeasedViewStore y = lateFill(2);
-        y.advance(130);
-        pingThroughOnly(y, 1);
-        due("view 3", y.check(), 3);
-        pingThroughOnly(y, 1);
+        promoteBackup(y, NOBODY);
         due("FILL of view 2 to the primary of view 3", y.deliver(0), 11);
         due("role stays", y.role(1), 1);
         due("state stays", y.cell(1, 3), 9);
 
         // Server 1 is backup again, of view 4, and not filled: less by two.
         LeasedViewStore z = lateFill(2);
-        z.advance(130);
-        pingThroughOnly(z, 0);
-        due("view 3", z.check(), 3);
-        pingThroughOnly(z, 0);
+        keepPrimary(z, NOBODY);
         pingThroughOnly(z, 0);
         pingHeard(z, 1);
         due("view 4", z.check(), 4);
@@ -584,13 +578,24 @@ public final class LetterBoundaryTest extends TestBase {
         due("result", x.result(0), 9);
         due("backup", x.cell(1, 3), 10);
 
-        // The first FILL makes the whole state the copy: cells, count, latest writes, results.
+        // The first FILL makes the whole state the copy: each cell ..
+        LeasedViewStore z = alone(3);
+        for (int k = 0; k < 4; k++) {
+            write(z, k % 3, 0, k, 20 + k);
+        }
+        pingHeard(z, 1);
+        z.check();
+        pingThrough(z, 0);
+        for (int k = 0; k < 4; k++) {
+            due("cell " + k, z.cell(1, k), 20 + k);
+        }
+        due("count", z.count(1), 4);
+
+        // .. and the latest writes with their results.
         LeasedViewStore y = alone(3);
         write(y, 0, 0, 0, 4);
         write(y, 0, 0, 0, 5);
-        y.begin(0, true, 0, 6);
-        y.send(0, 0);
-        y.deliver(0);
+        askWrite(y, 0, 0, 0, 6);
         y.lose(0);
         pingHeard(y, 1);
         y.check();
@@ -639,6 +644,15 @@ public final class LetterBoundaryTest extends TestBase {
         due("FILL", z.letter(0), 3 + 16 * 2);
         due("FILL", z.deliver(0), 3);
         due("FILLED", z.letter(0), 4 + 16 * 3);
+
+        // To the primary of that view, also when the service has gone on to the next.
+        LeasedViewStore w = lateFill(2);
+        w.advance(130);
+        pingHeard(w, 1);
+        due("view 3", w.check(), 3);
+        due("server 1 is the primary there", w.view(-1), shown(3, 1, NOBODY));
+        due("FILL of view 2", w.deliver(0), 3);
+        due("FILLED to server 0", w.letter(0), 4);
     }
 
     // ---- 4 FILLED
@@ -660,11 +674,7 @@ public final class LetterBoundaryTest extends TestBase {
         x.deliver(0);
         due("ready in view 2", x.role(0), 1);
         pingThroughOnly(x, 0);
-        x.advance(130);
-        pingThroughOnly(x, 0);
-        pingHeard(x, 2);
-        due("view 3", x.check(), 3);
-        pingThroughOnly(x, 0);
+        keepPrimary(x, 2);
         due("not ready in view 3", x.role(0), 2);
         due("FILLED of view 2", x.deliver(0), 12);
         due("not ready still", x.role(0), 2);
@@ -679,10 +689,7 @@ public final class LetterBoundaryTest extends TestBase {
         y.deliver(0);
         y.deliver(0);
         pingThroughOnly(y, 0);
-        y.advance(130);
-        pingThroughOnly(y, 1);
-        due("view 3", y.check(), 3);
-        pingThroughOnly(y, 1);
+        promoteBackup(y, NOBODY);
         pingThroughOnly(y, 0);
         due("neither", y.role(0), 6);
         due("FILLED of view 2", y.deliver(0), 12);
@@ -704,9 +711,7 @@ public final class LetterBoundaryTest extends TestBase {
         y.deliver(0);
         y.deliver(0);
         y.deliver(0);
-        y.begin(0, true, 0, 3);
-        y.send(0, 0);
-        y.deliver(1);
+        askWrite(y, 0, 0, 0, 3);
         due("pending", y.role(0), 3);
         due("FILLED", y.deliver(0), 12);
         due("pending still", y.role(0), 3);
@@ -722,10 +727,7 @@ public final class LetterBoundaryTest extends TestBase {
 
         // Less by two: backup of view 4, filled, with the count that the letter bears.
         LeasedViewStore y = pending(2, 0, 0, 4);
-        y.advance(130);
-        pingThroughOnly(y, 0);
-        due("view 3", y.check(), 3);
-        pingThroughOnly(y, 0);
+        keepPrimary(y, NOBODY);
         pingThroughOnly(y, 0);
         pingHeard(y, 1);
         due("view 4", y.check(), 4);
@@ -739,10 +741,7 @@ public final class LetterBoundaryTest extends TestBase {
 
         // The same, but not filled.
         LeasedViewStore z = pending(2, 0, 0, 4);
-        z.advance(130);
-        pingThroughOnly(z, 0);
-        z.check();
-        pingThroughOnly(z, 0);
+        keepPrimary(z, NOBODY);
         pingThroughOnly(z, 0);
         pingHeard(z, 1);
         z.check();
@@ -755,10 +754,7 @@ public final class LetterBoundaryTest extends TestBase {
     private static void passToNoBackup() {
         // The primary of view 3.
         LeasedViewStore x = pending(2, 0, 0, 4);
-        x.advance(130);
-        pingThroughOnly(x, 1);
-        x.check();
-        pingThroughOnly(x, 1);
+        promoteBackup(x, NOBODY);
         due("primary of view 3", x.role(1), 1);
         due("PASS of view 2", x.deliver(0), 13);
         due("not done", x.count(1), 0);
@@ -792,14 +788,25 @@ public final class LetterBoundaryTest extends TestBase {
         y.deliver(1);
         y.deliver(1);
         y.deliver(1);
-        y.begin(1, true, 0, 8);
-        y.send(1, 0);
-        y.deliver(1);
+        askWrite(y, 1, 0, 0, 8);
         due("PASS of count 1 at count 1", y.deliver(1), 5);
         due("cell", y.cell(1, 0), 8);
         due("PASS of count 0 at count 2", y.deliver(0), 5);
         due("cell stays", y.cell(1, 0), 8);
         due("count stays", y.count(1), 2);
+
+        // Done is done with all that belongs to it: as primary, the backup knows it as the latest write.
+        LeasedViewStore z = running(2);
+        write(z, 0, 0, 0, 3);
+        askWrite(z, 0, 0, 0, 4);
+        z.deliver(0);
+        z.lose(0);
+        promoteBackup(z, NOBODY);
+        z.send(0, 1);
+        due("asked again", z.deliver(0), 7);
+        due("done once", z.count(1), 2);
+        due("ANSWER", z.deliver(0), 8);
+        due("result", z.result(0), 3);
     }
 
     private static void passIsAnswered() {
@@ -821,13 +828,34 @@ public final class LetterBoundaryTest extends TestBase {
         y.deliver(1);
         y.deliver(1);
         y.deliver(1);
-        y.begin(1, true, 0, 8);
-        y.send(1, 0);
-        y.deliver(1);
+        askWrite(y, 1, 0, 0, 8);
         due("old PASS at the count of the next", y.deliver(0), 5);
         due("its PASSED", y.deliver(1), 14);
         due("pending still", y.role(0), 3);
         due("count", y.count(0), 1);
+
+        // Nor when the backup has done the next one already.
+        LeasedViewStore z = pending(2, 0, 0, 4);
+        z.push(0);
+        z.deliver(1);
+        z.deliver(1);
+        z.deliver(1);
+        askWrite(z, 1, 0, 0, 8);
+        due("PASS of count 1", z.deliver(1), 5);
+        z.lose(1);
+        due("old PASS of count 0 at count 2", z.deliver(0), 5);
+        due("its PASSED", z.deliver(0), 14);
+        due("pending still", z.role(0), 3);
+
+        // To the primary of that view, also when the service has gone on to the next.
+        LeasedViewStore w = pending(2, 0, 0, 4);
+        w.advance(130);
+        pingHeard(w, 1);
+        due("view 3", w.check(), 3);
+        due("server 1 is the primary there", w.view(-1), shown(3, 1, NOBODY));
+        due("PASS of view 2", w.deliver(0), 5);
+        due("PASSED to server 0", w.letter(0), 6);
+        due("PASSED", w.deliver(0), 6);
     }
 
     // ---- 6 PASSED
@@ -836,16 +864,10 @@ public final class LetterBoundaryTest extends TestBase {
         // The primary has a pending write of view 3 at the same count.
         LeasedViewStore x = pending(3, 0, 0, 4);
         x.deliver(0);
-        x.advance(130);
-        pingThroughOnly(x, 0);
-        pingHeard(x, 2);
-        due("view 3", x.check(), 3);
-        pingThroughOnly(x, 0);
+        keepPrimary(x, 2);
         x.deliver(1);
         x.deliver(1);
-        x.begin(1, true, 1, 9);
-        x.send(1, 0);
-        x.deliver(1);
+        askWrite(x, 1, 0, 1, 9);
         due("pending in view 3", x.role(0), 3);
         due("PASSED of view 2", x.deliver(0), 14);
         due("pending still", x.role(0), 3);
@@ -859,10 +881,7 @@ public final class LetterBoundaryTest extends TestBase {
     private static void passedToNoPrimary() {
         LeasedViewStore x = pending(2, 0, 0, 4);
         x.deliver(0);
-        x.advance(130);
-        pingThroughOnly(x, 1);
-        due("view 3", x.check(), 3);
-        pingThroughOnly(x, 1);
+        promoteBackup(x, NOBODY);
         pingThroughOnly(x, 0);
         due("neither in view 3", x.role(0), 6);
         due("PASSED of view 2", x.deliver(0), 14);
@@ -883,10 +902,7 @@ public final class LetterBoundaryTest extends TestBase {
         // Alone in view 3 with the same count, the pending write dropped.
         LeasedViewStore y = pending(2, 0, 0, 4);
         y.deliver(0);
-        y.advance(130);
-        pingThroughOnly(y, 0);
-        y.check();
-        pingThroughOnly(y, 0);
+        keepPrimary(y, NOBODY);
         due("alone", y.view(0), shown(3, 0, NOBODY));
         due("PASSED of view 2", y.deliver(0), 14);
         due("count", y.count(0), 0);
@@ -899,9 +915,7 @@ public final class LetterBoundaryTest extends TestBase {
         x.deliver(0);
         due("PASSED of count 0 at count 0", x.deliver(0), 6);
         due("ANSWER", x.deliver(1), 8);
-        x.begin(1, true, 1, 9);
-        x.send(1, 0);
-        x.deliver(1);
+        askWrite(x, 1, 0, 1, 9);
         due("pending at count 1", x.role(0), 3);
         due("PASSED of count 0 at count 1", x.deliver(0), 14);
         due("pending still", x.role(0), 3);
@@ -914,9 +928,7 @@ public final class LetterBoundaryTest extends TestBase {
         LeasedViewStore x = running(2);
         write(x, 0, 0, 2, 11);
         write(x, 0, 0, 1, 12);
-        x.begin(2, true, 2, 22);
-        x.send(2, 0);
-        x.deliver(0);
+        askWrite(x, 2, 0, 2, 22);
         due("not done yet", x.cell(0, 2), 11);
         x.deliver(0);
         due("PASSED", x.deliver(0), 6);
@@ -952,6 +964,12 @@ public final class LetterBoundaryTest extends TestBase {
         LeasedViewStore y = running(3);
         pingThrough(y, 2);
         asked(y, "neither", 2, false);
+        // A backup that has done the write, which a primary would answer.
+        LeasedViewStore w = pending(2, 0, 0, 5);
+        w.deliver(0);
+        w.send(0, 1);
+        due("the latest write, by a backup", deliverLast(w), 15);
+        due("no ANSWER", w.letters(), 1);
         // An old primary that has heard of view 3, and one that has not.
         LeasedViewStore z = running(2);
         z.advance(50);
@@ -963,8 +981,13 @@ public final class LetterBoundaryTest extends TestBase {
         z.begin(1, true, 0, 5);
         z.send(1, 0);
         due("write by the old primary", deliverLast(z), 7);
+        due("the PASS reaches the backup", z.deliver(0), 5);
+        due("the old primary does it", z.deliver(0), 6);
+        z.lose(0);
         pingThrough(z, 0);
         due("neither", z.role(0), 6);
+        z.send(1, 0);
+        due("the latest write, by the one left out", z.deliver(0), 15);
         asked(z, "the one left out", 0, false);
     }
 
@@ -1021,9 +1044,7 @@ public final class LetterBoundaryTest extends TestBase {
         LeasedViewStore y = alone(2);
         y.begin(1, false, 0, 0);
         y.send(1, 0);
-        y.begin(0, true, 0, 3);
-        y.send(0, 0);
-        due("write", y.deliver(1), 7);
+        due("write", askWrite(y, 0, 0, 0, 3), 7);
         due("read", y.deliver(0), 7);
         due("ANSWER to the write", y.deliver(0), 8);
         write(y, 0, 0, 0, 4);
@@ -1036,9 +1057,7 @@ public final class LetterBoundaryTest extends TestBase {
         z.send(0, 0);
         z.deliver(0);
         z.deliver(1);
-        z.begin(0, true, 0, 1);
-        z.send(0, 0);
-        z.deliver(1);
+        askWrite(z, 0, 0, 0, 1);
         due("read with a number less than the latest write", z.deliver(0), 7);
         due("ANSWER to the write", z.deliver(0), 8);
         due("ANSWER to the old read", z.deliver(0), 16);
@@ -1081,9 +1100,7 @@ public final class LetterBoundaryTest extends TestBase {
         due("no ANSWER", x.letters(), 1);
         due("write 2 when 2 is the latest", x.deliver(0), 7);
         due("not done again", x.count(0), 2);
-        x.begin(0, true, 0, 7);
-        x.send(0, 0);
-        due("write 3 when 2 is the latest", x.deliver(1), 7);
+        due("write 3 when 2 is the latest", askWrite(x, 0, 0, 0, 7), 7);
         due("done", x.count(0), 3);
 
         // With a backup.
@@ -1101,9 +1118,7 @@ public final class LetterBoundaryTest extends TestBase {
             settle(z);
         }
         write(z, 1, 0, 0, 3);
-        z.begin(0, true, 0, 4);
-        z.send(0, 0);
-        due("write 1 when 4 is another's latest", z.deliver(0), 7);
+        due("write 1 when 4 is another's latest", askWrite(z, 0, 0, 0, 4), 7);
         due("done", z.cell(0, 0), 4);
     }
 
@@ -1122,17 +1137,28 @@ public final class LetterBoundaryTest extends TestBase {
         due("done once", x.count(0), 3);
         due("the other's write stays", x.cell(0, 0), 9);
 
+        // Its number counts the reads as well: write 3 after read 2.
+        LeasedViewStore v = alone(2);
+        write(v, 0, 0, 0, 5);
+        v.begin(0, false, 0, 0);
+        v.send(0, 0);
+        settle(v);
+        v.begin(0, true, 0, 6);
+        v.send(0, 0);
+        v.send(0, 0);
+        due("write 3", v.deliver(0), 7);
+        due("write 3 again", v.deliver(0), 7);
+        due("done once", v.count(0), 2);
+        due("ANSWER", v.deliver(0), 8);
+        due("result", v.result(0), 5);
+
         // While another write is pending, it is answered all the same.
         LeasedViewStore y = running(2);
-        y.begin(0, true, 0, 5);
-        y.send(0, 0);
-        y.deliver(0);
+        askWrite(y, 0, 0, 0, 5);
         y.deliver(0);
         y.deliver(0);
         y.lose(0);
-        y.begin(1, true, 0, 6);
-        y.send(1, 0);
-        y.deliver(0);
+        askWrite(y, 1, 0, 0, 6);
         due("pending", y.role(0), 3);
         y.send(0, 0);
         due("the latest while another is pending", y.deliver(1), 7);
@@ -1141,9 +1167,7 @@ public final class LetterBoundaryTest extends TestBase {
 
         // And while the primary is not ready.
         LeasedViewStore z = alone(2);
-        z.begin(0, true, 0, 5);
-        z.send(0, 0);
-        z.deliver(0);
+        askWrite(z, 0, 0, 0, 5);
         z.lose(0);
         pingHeard(z, 1);
         z.check();
@@ -1156,22 +1180,20 @@ public final class LetterBoundaryTest extends TestBase {
 
         // After the lease as well.
         LeasedViewStore w = alone(2);
-        w.begin(0, true, 0, 5);
-        w.send(0, 0);
-        w.deliver(0);
+        askWrite(w, 0, 0, 0, 5);
         w.lose(0);
         w.advance(1000);
         w.send(0, 0);
         due("the latest after the lease", w.deliver(0), 7);
+        due("done once", w.count(0), 1);
         due("ANSWER", w.deliver(0), 8);
+        due("result", w.result(0), 0);
     }
 
     private static void askWriteAlone() {
         LeasedViewStore x = alone(2);
         write(x, 0, 0, 3, 5);
-        x.begin(1, true, 3, 6);
-        x.send(1, 0);
-        due("ASK", x.deliver(0), 7);
+        due("ASK", askWrite(x, 1, 0, 3, 6), 7);
         due("done at once", x.cell(0, 3), 6);
         due("count", x.count(0), 2);
         due("no pending write", x.role(0), 1);
@@ -1182,18 +1204,14 @@ public final class LetterBoundaryTest extends TestBase {
 
         // With a backup it is not done at once.
         LeasedViewStore y = running(2);
-        y.begin(1, true, 3, 6);
-        y.send(1, 0);
-        due("ASK", y.deliver(0), 7);
+        due("ASK", askWrite(y, 1, 0, 3, 6), 7);
         due("not done", y.cell(0, 3), 0);
         due("PASS", y.letter(0), 5 + 16);
     }
 
     private static void askWriteNotReady() {
         LeasedViewStore x = filling(2);
-        x.begin(0, true, 0, 5);
-        x.send(0, 0);
-        due("not ready", x.deliver(1), 15);
+        due("not ready", askWrite(x, 0, 0, 0, 5), 15);
         due("role", x.role(0), 2);
         due("letters", x.letters(), 1);
         x.deliver(0);
@@ -1206,9 +1224,7 @@ public final class LetterBoundaryTest extends TestBase {
 
     private static void askWritePending() {
         LeasedViewStore x = pending(2, 0, 0, 5);
-        x.begin(1, true, 1, 6);
-        x.send(1, 0);
-        due("another write while one is pending", x.deliver(1), 15);
+        due("another write while one is pending", askWrite(x, 1, 0, 1, 6), 15);
         x.send(0, 0);
         due("the same write while it is pending", x.deliver(1), 15);
         due("letters", x.letters(), 1);
@@ -1225,9 +1241,7 @@ public final class LetterBoundaryTest extends TestBase {
         LeasedViewStore x = running(3);
         write(x, 0, 0, 0, 1);
         write(x, 0, 0, 1, 2);
-        x.begin(2, true, 3, -7);
-        x.send(2, 0);
-        due("ASK", x.deliver(0), 7);
+        due("ASK", askWrite(x, 2, 0, 3, -7), 7);
         due("pending", x.role(0), 3);
         due("PASS", x.letter(0), 5 + 16);
         due("letters", x.letters(), 1);
@@ -1238,6 +1252,17 @@ public final class LetterBoundaryTest extends TestBase {
         due("cell of the primary", x.cell(0, 3), 0);
         settle(x);
         due("cell of the primary", x.cell(0, 3), -7);
+
+        // To the backup of its own view, also when the service has gone on to the next.
+        LeasedViewStore y = running(3);
+        y.advance(130);
+        pingHeard(y, 0);
+        pingHeard(y, 2);
+        due("view 3", y.check(), 3);
+        due("ASK", askWrite(y, 2, 0, 3, -7), 7);
+        due("PASS to server 1", y.letter(0), 5 + 16);
+        due("pushed", y.push(0), true);
+        due("PASS to server 1", y.letter(1), 5 + 16);
     }
 
     // ---- 8 ANSWER
@@ -1326,18 +1351,12 @@ public final class LetterBoundaryTest extends TestBase {
         // Still primary, with another backup: when it is ready again, nothing is pending.
         LeasedViewStore y = pending(3, 0, 0, 4);
         y.lose(0);
-        y.advance(130);
-        pingHeard(y, 0);
-        pingHeard(y, 2);
-        y.check();
-        pingThroughOnly(y, 0);
+        keepPrimary(y, 2);
         due("not ready in view 3", y.role(0), 2);
         y.deliver(0);
         y.deliver(0);
         due("ready, none pending", y.role(0), 1);
-        y.begin(1, true, 1, 5);
-        y.send(1, 0);
-        due("another write", y.deliver(0), 7);
+        due("another write", askWrite(y, 1, 0, 1, 5), 7);
         settle(y);
         due("the dropped write is not done", y.cell(0, 0), 0);
         due("the other is", y.cell(0, 1), 5);
@@ -1403,20 +1422,13 @@ public final class LetterBoundaryTest extends TestBase {
 
         // A backup that becomes primary without one: ready, with no FILL.
         LeasedViewStore z = running(2);
-        z.advance(130);
-        pingHeard(z, 1);
-        z.check();
-        pingThroughOnly(z, 1);
+        promoteBackup(z, NOBODY);
         due("promoted alone", z.role(1), 1);
         due("no FILL", z.letters(), 0);
 
         // A backup that becomes primary with one.
         LeasedViewStore w = running(3);
-        w.advance(130);
-        pingHeard(w, 1);
-        pingHeard(w, 2);
-        w.check();
-        pingThroughOnly(w, 1);
+        promoteBackup(w, 2);
         due("promoted", w.role(1), 2);
         due("FILL to the newcomer", w.letter(0), 3 + 16 * 2);
     }

@@ -10,7 +10,7 @@ import java.util.function.Supplier;
  */
 public final class RefusalTest extends TestBase {
     private static final int N = 3;
-    private static final int LATER_CALLS = 200;
+    private static final int LATER_CALLS = 150;
 
     /** A call, and its answer as a number: -1 for false, 1 for true. */
     record Call(String name, Function<LeasedViewStore, Integer> answer) { }
@@ -27,6 +27,7 @@ public final class RefusalTest extends TestBase {
         List<State> states = new ArrayList<>();
         states.add(new State("new", () -> new LeasedViewStore(N)));
         states.add(new State("alone", RefusalTest::aloneWithWrites));
+        states.add(new State("begun", RefusalTest::begunOnly));
         states.add(new State("paired", () -> paired(N)));
         states.add(new State("filling", () -> filling(N)));
         states.add(new State("running", () -> running(N)));
@@ -45,6 +46,15 @@ public final class RefusalTest extends TestBase {
         x.begin(2, false, 3, 0);
         x.send(2, 0);
         x.ping(1);
+        return x;
+    }
+
+    /** Each client has an operation under way that it has sent to nobody yet. */
+    private static LeasedViewStore begunOnly() {
+        LeasedViewStore x = alone(N);
+        x.begin(0, true, 0, 7);
+        x.begin(1, true, 3, 8);
+        x.begin(2, false, 3, 0);
         return x;
     }
 
@@ -142,8 +152,10 @@ public final class RefusalTest extends TestBase {
             calls.add(new Call("view(" + s + ")", x -> x.view(server)));
             calls.add(new Call("role(" + s + ")", x -> x.role(server)));
             calls.add(new Call("count(" + s + ")", x -> x.count(server)));
-            calls.add(new Call("cell(" + s + ", 3)", x -> x.cell(server, 3)));
-            calls.add(new Call("cell(" + s + ", 4)", x -> x.cell(server, 4)));
+            for (int k = 0; k <= 4; k++) {
+                int cell = k;
+                calls.add(new Call("cell(" + s + ", " + k + ")", x -> x.cell(server, cell)));
+            }
         }
         for (int c = -1; c <= 3; c++) {
             int client = c;
@@ -209,10 +221,25 @@ public final class RefusalTest extends TestBase {
             int server = s;
             alike(when, x, y, new Call("readAt(" + s + ")", z -> readAt(z, server)));
         }
+        bringThroughAlike(when, x, y);
         for (int i = 0; i < LATER_CALLS; i++) {
             alike(when, x, y, laterCall());
         }
         looksAlike("at the end, " + when, x, y);
+    }
+
+    /** The operations that are under way are asked for, and show what they were begun with. */
+    private static void bringThroughAlike(String when, LeasedViewStore x, LeasedViewStore y) {
+        for (int c = 0; c < 3; c++) {
+            int client = c;
+            alike(when, x, y, new Call("send(" + c + ", 0)", z -> truth(z.send(client, 0))));
+        }
+        for (int i = 0; i < 6; i++) {
+            alike(when, x, y, new Call("deliver(0)", z -> z.deliver(0)));
+        }
+        for (int k = 0; k < 4; k++) {
+            due("cell(0, " + k + ") " + when, x.cell(0, k), y.cell(0, k));
+        }
     }
 
     /** Answers whether the state refused the call. */

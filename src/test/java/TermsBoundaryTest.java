@@ -34,6 +34,7 @@ public final class TermsBoundaryTest extends TestBase {
         sentence("Terms:", words, TermsBoundaryTest::freshNewcomer);
         sentence("Terms:", words, TermsBoundaryTest::freshBackup);
         sentence("Terms:", words, TermsBoundaryTest::freshPrimary);
+        sentence("Terms:", words, TermsBoundaryTest::freshThoughCrashed);
         sentence("Terms:", words, TermsBoundaryTest::freshSinceTheLatest);
         sentence("Terms:", words, TermsBoundaryTest::freshSinceArrival);
     }
@@ -205,13 +206,24 @@ public final class TermsBoundaryTest extends TestBase {
             due("read at 99", readAt(x, s), 7);
             x.advance(1);
             due("read at 100", readAt(x, s), 15);
+            // Setting it to 0 changes nothing.
+            LeasedViewStore y = new LeasedViewStore(3);
+            pingThrough(y, s);
+            y.skew(s, 0);
+            y.advance(99);
+            due("read at 99, skew 0", readAt(y, s), 7);
+            y.advance(1);
+            due("read at 100, skew 0", readAt(y, s), 15);
         }
-        // The ping of another server with a skew first: a lease is of the server's own clock.
-        LeasedViewStore y = new LeasedViewStore(2);
-        y.skew(1, 10);
-        pingThrough(y, 0);
-        y.advance(100);
-        due("read with the skew of another server", readAt(y, 0), 15);
+        // The skew of another server does not matter.
+        LeasedViewStore z = new LeasedViewStore(2);
+        z.skew(1, 10);
+        pingThrough(z, 0);
+        z.skew(1, -10);
+        z.advance(99);
+        due("read at 99", readAt(z, 0), 7);
+        z.advance(1);
+        due("read at 100", readAt(z, 0), 15);
     }
 
     private static void noViewAtFirst() {
@@ -304,6 +316,22 @@ public final class TermsBoundaryTest extends TestBase {
             y.advance(ago);
             due("check, both silent, backup " + ago, y.check(), fresh ? 3 : 2);
             due("view", y.view(-1), fresh ? shown(3, 1, NOBODY) : shown(2, 0, 1));
+        }
+    }
+
+    /** The service knows of pings alone. */
+    private static void freshThoughCrashed() {
+        for (int ago = 129; ago <= 130; ago++) {
+            LeasedViewStore x = running(3);
+            x.crash(1);
+            x.advance(ago);
+            pingHeard(x, 0);
+            due("check, crashed backup heard " + ago + " ago", x.check(), ago < 130 ? 2 : 3);
+            LeasedViewStore y = running(3);
+            y.crash(0);
+            y.advance(ago);
+            pingHeard(y, 1);
+            due("check, crashed primary heard " + ago + " ago", y.check(), ago < 130 ? 2 : 3);
         }
     }
 

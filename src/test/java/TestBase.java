@@ -25,7 +25,11 @@ abstract class TestBase {
     static void sentence(String where, String words, Runnable test) {
         about(where + " \"" + words + "\"");
         int before = looked;
-        test.run();
+        try {
+            test.run();
+        } catch (RuntimeException e) {
+            tell("a call failed: " + e);
+        }
         if (looked == before) {
             tell("its test looks at nothing");
         }
@@ -139,10 +143,35 @@ abstract class TestBase {
     /** As running(n), then a write of v to cell k by client c is pending, its PASS the only letter. */
     static LeasedViewStore pending(int n, int c, int k, int v) {
         LeasedViewStore x = running(n);
-        x.begin(c, true, k, v);
-        x.send(c, 0);
-        x.deliver(0);
+        askWrite(x, c, 0, k, v);
         return x;
+    }
+
+    /** From view 2 confirmed: server 1 is stale, and server 0 enters view 3 with the newcomer or alone. */
+    static void keepPrimary(LeasedViewStore x, int newcomer) {
+        nextView(x, 0, newcomer);
+    }
+
+    /** From view 2 confirmed: server 0 is stale, and server 1 enters view 3 with the newcomer or alone. */
+    static void promoteBackup(LeasedViewStore x, int newcomer) {
+        nextView(x, 1, newcomer);
+    }
+
+    private static void nextView(LeasedViewStore x, int primary, int newcomer) {
+        x.advance(130);
+        pingHeard(x, primary);
+        if (newcomer != NOBODY) {
+            pingHeard(x, newcomer);
+        }
+        x.check();
+        pingThroughOnly(x, primary);
+    }
+
+    /** Begins a write and delivers its ASK; what the delivery answers. */
+    static int askWrite(LeasedViewStore x, int c, int s, int k, int v) {
+        x.begin(c, true, k, v);
+        x.send(c, s);
+        return deliverLast(x);
     }
 
     static void write(LeasedViewStore x, int c, int s, int k, int v) {
